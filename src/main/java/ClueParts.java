@@ -244,7 +244,10 @@ public final class ClueParts {
         if (!book.has(e)) {
             return BAD;
         }
-        return limited(parsesLacking(e));
+        solver.suppose(solution, e);
+        int result = parses();
+        solver.supposeNothing(solution);
+        return result;
     }
 
     public int count(int what) {
@@ -345,24 +348,19 @@ public final class ClueParts {
         return NONE;
     }
 
-    private long parsesLacking(int e) {
-        if (!words.includes(book.word[e])) {
-            return solver.parseTable.totalAt(solver.parse());
-        }
-        solver.suppose(solution, e);
-        long total = solver.parseTable.totalAt(solver.parse());
-        solver.supposeNothing(solution);
-        return total;
-    }
-
+    /** An entry whose word is not in the clue can't be needed. */
     private int neededEntries() {
         long total = solver.parseTable.totalAt(solver.parse());
         int needed = 0;
         for (int e = 0; e < book.size && total > 0; e++) {
-            if (parsesLacking(e) < total) {
-                needed++;
+            if (words.includes(book.word[e])) {
+                solver.suppose(solution, e);
+                if (solver.parseTable.totalAt(solver.parse()) < total) {
+                    needed++;
+                }
             }
         }
+        solver.supposeNothing(solution);
         return needed;
     }
 
@@ -392,16 +390,13 @@ public final class ClueParts {
             return i < 0 || i >= ROOM ? 0 : SMALL + (int) (letters >>> BITS * i & MASK);
         }
 
-        static long beheaded(long letters) {
-            return letters >>> BITS;
-        }
-
-        static long curtailed(long letters) {
-            int last = 0;
-            while (last < ROOM - 1 && letters >>> BITS * (last + 1) != 0) {
-                last++;
+        /** What B or T leaves, which may be no letters. */
+        static long shortened(long letters, int sort) {
+            if (sort == BEHEADED) {
+                return letters >>> BITS;
             }
-            return letters & (1L << BITS * last) - 1;
+            int size = size(letters);
+            return size == 0 ? 0 : letters & (1L << BITS * (size - 1)) - 1;
         }
 
         /** A number that is the same for the same letters in any order, and different for others: up to 8 letters. */
@@ -894,7 +889,7 @@ public final class ClueParts {
 
         private boolean isPossible(int choice) {
             boolean first = isDefinedFirst(choice);
-            return maySay(first ? 0 : clue.size - 1, answer)
+            return maySay(clue.wordAt(first ? 0 : clue.size - 1), answer)
                     && (!isLinked(choice) || marked(first ? 1 : clue.size - 2, LINK));
         }
 
@@ -912,8 +907,8 @@ public final class ClueParts {
             return stretch(0, Letters.size(answer));
         }
 
-        private boolean maySay(int w, long letters) {
-            int e = book.find(clue.wordAt(w), letters, GIVEN);
+        private boolean maySay(long word, long letters) {
+            int e = book.find(word, letters, GIVEN);
             return e != NONE && e != missing;
         }
 
@@ -998,7 +993,7 @@ public final class ClueParts {
         }
 
         private void addWord(int slot, int w, long letters) {
-            if (maySay(w, letters)) {
+            if (maySay(clue.word[w], letters)) {
                 addUnit(slot, GIVEN, 0, weights[GIVEN]);
             }
             if (clue.word[w] == letters) {
@@ -1084,18 +1079,14 @@ public final class ClueParts {
                 return;
             }
             long word = clue.word[i + 1];
-            if (shortened(sort, word) == letters) {
+            if (Letters.shortened(word, sort) == letters) {
                 addUnit(slot, sort, 0, weights[sort] + weights[ITSELF]);
             }
             for (int e = 0; e < book.size; e++) {
-                if (e != missing && book.word[e] == word && shortened(sort, book.letters[e]) == letters) {
+                if (e != missing && book.word[e] == word && Letters.shortened(book.letters[e], sort) == letters) {
                     addUnit(slot, sort, e + 1, weights[sort] + weights[GIVEN]);
                 }
             }
-        }
-
-        private static long shortened(int sort, long letters) {
-            return sort == BEHEADED ? Letters.beheaded(letters) : Letters.curtailed(letters);
         }
 
         private void addInitials(int slot, int i, int j, long letters) {
