@@ -370,7 +370,7 @@ public final class ClueParts {
      */
     private static final class Letters {
         static final int BITS = 5, MASK = 31, SMALL = 96, ROOM = 12;
-        /** No letter is 1, a is 2, and so on; eight times the last one stays below the limit of a long. */
+        /** For no letter 1, for a 2, and so on; the eighth power of the last one is still a long. */
         private static final int[] PRIMES = {1, 2, 3, 5, 7, 11, 13, 17, 19, 23, 29, 31, 37, 41, 43, 47, 53, 59, 61, 67,
             71, 73, 79, 83, 89, 97, 101};
 
@@ -571,6 +571,7 @@ public final class ClueParts {
     /** The words of the clue, and their letters joined without gaps. */
     private static final class Clue {
         final long[] word = new long[MAX_WORDS];
+        /** Where each word begins in the joined letters, and behind the last one their end. */
         final int[] start = new int[MAX_WORDS + 1];
         final int[] joined = new int[MAX_WORDS * MAX_WORD];
         int size;
@@ -595,7 +596,6 @@ public final class ClueParts {
                 int end = text.wordEnd(place);
                 word[w] = text.packed(place, end);
                 // The w blanks before this word are left out.
-                start[w] = place - w;
                 for (int i = place; i < end; i++) {
                     joined[i - w] = text.at(i);
                 }

@@ -47,6 +47,7 @@ public final class LineTest {
         best("d=aaa;s/H;", "d s aaa aaa", "aaa", "<d=H(aaaaaa)", 2, 2);
         best("d=ab;f/I;", "d f art bee", "ab", "<d=I(artbee)", 2, 1);
         best("d=ba;x/A;", "d x a b", "ba", "<d=A(ab)", 2, 1);
+        best("d=ba;x/A;", "d a b x", "ba", "<d=A(ab)", 2, 1);
         best("d=ab;k/B;", "d k zab", "ab", "<d=B('zab)", 5, 1);
         best("d=ab;k/B;w=zab;", "d k w", "ab", "<d=B(zab)", 3, 1);
         best("d=ab;k/T;", "d k abz", "ab", "<d=T('abz)", 5, 1);

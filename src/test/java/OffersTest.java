@@ -46,6 +46,7 @@ public final class OffersTest {
         offers(x, 5, 7);
         Check.clue(x, "m m m", 3);
         offers(x, 1);
+        offers(Check.made("b=xy;a=xy;a=xyz;", "a b", "qq"), 0, 2);
     }
 
     private static void wrongArguments() {
@@ -71,6 +72,7 @@ public final class OffersTest {
         Check.clue(x, "d o h i", 4);
         Check.due("ifOffer(0, 0)", x.ifOffer(0, 0), 1);
         Check.due("ifOffer(0, 1)", x.ifOffer(0, 1), 3);
+        Check.due("parses() after ifOffer", x.parses(), 0);
         Check.due("ifOffer(1, 1)", x.ifOffer(1, 1), ClueParts.NONE);
         Check.due("parses() after ifOffer", x.parses(), 0);
         Check.due("answerLetter(0) after ifOffer", x.answerLetter(0), 'q');

@@ -58,6 +58,8 @@ public final class UnitsTest {
         whole("b/R;", "b to p", "pot", 1, 7);
         whole("b/R;p=aba;", "b p", "aba", 1, 2);
         whole("back/R;", "back back", "kcab", 2, 4);
+        whole("b/R;p=hgfedcba;", "b p", "abcdefgh", 1, 2);
+        whole("b/R;p=hgfe;q=dcba;", "p q b", "abcdefgh", 1, 3);
         ClueParts x = Check.made("b/R;p=t;", "b p", "tt");
         span(x, 0, 2, 0, 1, 0, 0, ClueParts.NONE);
         x = Check.made("b/R;p=t;", "b p p", "tt");
@@ -154,6 +156,7 @@ public final class UnitsTest {
 
     private static void shortened() {
         whole("k/B;w=xab;w=yab;w=abx;", "k w", "ab", 2, 3);
+        whole("w=xab;k/B;", "k w", "ab", 1, 3);
         whole("k/B;", "k zab", "ab", 1, 5);
         whole("k/B;", "zab k", "ab", 0, 0);
         whole("k/B;", "k za b", "ab", 0, 0);
@@ -182,6 +185,7 @@ public final class UnitsTest {
 
     private static void initials() {
         whole("f/I;", "f art bee", "ab", 1, 2);
+        whole("f/I;", "f bee cat zoo", "bcz", 1, 2);
         whole("f/I;", "f art bee", "ar", 0, 0);
         whole("f/I;", "art bee f", "ab", 0, 0);
         whole("f/I;", "f a b c d e", "abcde", 1, 2);
