@@ -34,7 +34,7 @@ public final class BookTest {
         for (int i = 0; i < letters.length(); i++) {
             Check.due("entryLetter(" + e + ", " + what + ", " + i + ")", x.entryLetter(e, what, i), letters.charAt(i));
         }
-        int[] beyond = {letters.length(), letters.length() + 1, 12, 13, 32, 64, 1000000, Integer.MAX_VALUE};
+        int[] beyond = {letters.length(), letters.length() + 1, Integer.MAX_VALUE};
         for (int i : beyond) {
             Check.due("entryLetter(" + e + ", " + what + ", " + i + ")", x.entryLetter(e, what, i), ClueParts.NONE);
         }
@@ -83,7 +83,7 @@ public final class BookTest {
         book(x, now);
         Check.due("count(6)", x.count(6), 8);
         Check.learn(x, "c=d;c/X;", ClueParts.NO);
-        book(x, now);
+        Check.due("count(0) after NO", x.count(0), 19);
         ClueParts y = new ClueParts();
         Check.learn(y, "abcdefg=abcdefgh;hijklmn=zyxwvuts;a=z;z/I;", 4);
         Check.forgetAll(y);

@@ -49,14 +49,14 @@ public final class RandomBooksTest {
         }
         parsesSeen += parses.size();
         linesSeen += parses.isEmpty() ? 0 : 1;
-        ClueParts x = made(book, words, answer, weights);
         String name = book + " " + words + " " + answer + " ";
-        compareParses(name, x, oracle, parses);
-        comparePieces(name, x, oracle);
+        compareParses(name, made(oracle), oracle, parses);
+        comparePieces(name, oracle);
+        ClueParts x = made(oracle);
         compareOffers(name, x, oracle);
         compareNeeds(name, x, oracle, parses.size());
         // Once more, because offers and needs ask about other answers and books in between.
-        compareParses(name, x, oracle, parses);
+        compareBest(name, x, parses);
     }
 
     private static String random(Random random, String[] vocabulary, int least, int most) {
@@ -110,29 +110,35 @@ public final class RandomBooksTest {
         return weights;
     }
 
-    private static ClueParts made(List<Oracle.Entry> book, List<String> words, String answer, int[] weights) {
+    /** A new object; it has had at most 300 calls. */
+    private static ClueParts made(Oracle oracle) {
         ClueParts x = new ClueParts();
         Check.forgetAll(x);
-        for (Oracle.Entry e : book) {
-            Check.learn(x, e.word() + (e.stands() ? "=" + e.letters() : "/" + e.sign()) + ";", 1);
+        StringBuilder text = new StringBuilder();
+        int entries = 0;
+        for (Oracle.Entry e : oracle.book) {
+            String entry = e.word() + (e.stands() ? "=" + e.letters() : "/" + e.sign()) + ";";
+            if (text.length() + entry.length() > 200) {
+                Check.learn(x, text.toString(), entries);
+                text.setLength(0);
+                entries = 0;
+            }
+            text.append(entry);
+            entries++;
         }
-        Check.clue(x, String.join(" ", words), words.size());
-        Check.answer(x, answer, answer.length());
+        Check.learn(x, text.toString(), entries);
+        Check.clue(x, String.join(" ", oracle.words), oracle.words.size());
+        Check.answer(x, oracle.answer, oracle.answer.length());
         int[] first = {1, 3, 1, 2, 1, 1, 2, 2, 2, 2, 0};
         for (int sort = 0; sort < 11; sort++) {
-            Check.due("weigh(" + sort + ")", x.weigh(sort, weights[sort]),
-                    first[sort] == weights[sort] ? ClueParts.NO : first[sort]);
+            Check.due("weigh(" + sort + ")", x.weigh(sort, oracle.weights[sort]),
+                    first[sort] == oracle.weights[sort] ? ClueParts.NO : first[sort]);
         }
         return x;
     }
 
     private static void compareParses(String name, ClueParts x, Oracle oracle, List<Oracle.Parse> parses) {
-        Check.due(name + "parses()", x.parses(), parses.size());
-        Check.due(name + "cost()", x.cost(), parses.isEmpty() ? ClueParts.NONE : parses.get(0).cost());
-        Check.due(name + "line", Check.line(x), parses.isEmpty() ? "" : parses.get(0).text());
-        Check.due(name + "first(-1)", x.first(-1), parses.isEmpty() ? ClueParts.NONE : parses.get(0).text().length());
-        Check.due(name + "cheapest()", x.cheapest(),
-                parses.stream().filter(p -> p.cost() == parses.get(0).cost()).count());
+        compareBest(name, x, parses);
         for (int w = 0; w < oracle.words.size(); w++) {
             for (int sort = 2; sort <= 10; sort++) {
                 Check.due(name + "sign(" + w + ", " + sort + ")", x.sign(w, sort),
@@ -141,13 +147,29 @@ public final class RandomBooksTest {
         }
     }
 
-    private static void comparePieces(String name, ClueParts x, Oracle oracle) {
+    private static void compareBest(String name, ClueParts x, List<Oracle.Parse> parses) {
+        Check.due(name + "parses()", x.parses(), parses.size());
+        Check.due(name + "cost()", x.cost(), parses.isEmpty() ? ClueParts.NONE : parses.get(0).cost());
+        Check.due(name + "line", Check.line(x), parses.isEmpty() ? "" : parses.get(0).text());
+        Check.due(name + "first(-1)", x.first(-1), parses.isEmpty() ? ClueParts.NONE : parses.get(0).text().length());
+        Check.due(name + "cheapest()", x.cheapest(),
+                parses.stream().filter(p -> p.cost() == parses.get(0).cost()).count());
+    }
+
+    private static void comparePieces(String name, Oracle oracle) {
         int n = oracle.words.size();
+        ClueParts x = made(oracle);
+        int asked = 0;
         for (int i = 0; i < n; i++) {
             for (int j = i + 1; j <= n; j++) {
                 for (int a = 0; a < oracle.answer.length(); a++) {
                     for (int b = a + 1; b <= oracle.answer.length(); b++) {
+                        if (asked > 200) {
+                            x = made(oracle);
+                            asked = 0;
+                        }
                         compareSpan(name, x, oracle, new int[] {i, j, a, b});
+                        asked += 3;
                     }
                 }
             }

@@ -5,6 +5,8 @@ public final class RandomCallsTest {
     private static final String[] WORDS = {"sailor", "pest", "ship", "flower", "star", "back", "broken", "in", "around",
         "some", "later", "short", "first", "for", "tar", "rat", "a", "s", "t", "sun"};
     private static final int[] EXTREMES = {Integer.MIN_VALUE, -1000, -2, -1, 200, 1000, Integer.MAX_VALUE};
+    /** No change takes more calls than this: six entries of 6 and 12 letters, written, looked at and learned. */
+    private static final int LONGEST = 130;
 
     private final Random random;
     private final ClueParts x = new ClueParts();
@@ -39,7 +41,7 @@ public final class RandomCallsTest {
     }
 
     private void run() {
-        while (calls < 512) {
+        while (calls + LONGEST < Call.MOST) {
             if (random.nextInt(12) == 0) {
                 change();
             } else {

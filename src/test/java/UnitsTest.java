@@ -252,10 +252,10 @@ public final class UnitsTest {
     }
 
     private static void ranges() {
-        ClueParts x = new ClueParts();
         int[] numbers = {Integer.MIN_VALUE, -2, -1, 0, 1, 2, 3, 4, 8, 9, Integer.MAX_VALUE};
         for (int i : numbers) {
             for (int j : numbers) {
+                ClueParts x = new ClueParts();
                 for (int a : numbers) {
                     for (int b : numbers) {
                         boolean good = i >= 0 && i < j && j <= 3 && a >= 0 && a < b && b <= 3;
