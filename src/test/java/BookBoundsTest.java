@@ -2,7 +2,7 @@
  * The boundary cases of the book: promises 1 (the first book), 5 learn, 6 forget, 10 entry, 11 entryLetter, 14 sign,
  * and count(0) and count(6) of promise 26.
  */
-public final class BookBoundsTest {
+public final class BookBoundsTest extends Bounds {
     /** Ten entries that fill the first book to 24, and ten that fill the rest of an empty one. */
     private static final String TEN = "a=a;a=b;a=c;a=d;a=e;a=f;a=g;a=h;a=i;a=j;";
     private static final String FOURTEEN = "a=k;a=l;a=m;a=n;a=o;a=p;a=q;a=r;a=s;a=t;a=u;a=v;a=w;a=x;";
@@ -26,19 +26,33 @@ public final class BookBoundsTest {
         Check.end();
     }
 
-    private static void run(String sentence, String script) {
-        Script.run(sentence, script);
-    }
-
     private static void firstBook() {
         run("1: the first book has 14 entries, numbered from 0", """
                 count(0) = 14; entry(-1, 0) = BAD; entry(0, 0) = 6; entry(13, 0) = 3; entry(14, 0) = BAD
                 entryLetter(0, 0, 0) = 's'; entryLetter(0, 1, 0) = 't'; entry(13, 3) = 'L'; entryLetter(13, 0, 2) = 'r'
                 """);
+        StringBuilder all = new StringBuilder();
+        String[] entries = {"sailor=tar", "pest=rat", "ship=ss", "flower=aster", "star=sun", "back/R", "broken/A", "in/N",
+            "around/C", "some/H", "later/B", "short/T", "first/I", "for/L"};
+        for (int e = 0; e < entries.length; e++) {
+            String[] halves = entries[e].split("[=/]");
+            boolean stands = entries[e].contains("=");
+            letters(all, e, 0, halves[0]);
+            letters(all, e, 1, stands ? halves[1] : "");
+            all.append("entry(").append(e).append(", 3) = ").append(stands ? "NONE" : "'" + halves[1] + "'").append('\n');
+        }
+        run("1: all entries of the first book, in their order", all.toString());
         run("1: the sorts of its indicators", """
                 entry(4, 3) = NONE; entry(5, 3) = 'R'; entry(6, 3) = 'A'; entry(7, 3) = 'N'; entry(8, 3) = 'C'
                 entry(9, 3) = 'H'; entry(10, 3) = 'B'; entry(11, 3) = 'T'; entry(12, 3) = 'I'; entry(13, 3) = 'L'""");
         run("1: the text is empty", "count(4) = 0; wipe() = 0; fault() = NONE; clue() = NO; answer() = NO");
+    }
+
+    private static void letters(StringBuilder script, int e, int what, String letters) {
+        for (int i = 0; i <= letters.length(); i++) {
+            script.append("entryLetter(").append(e).append(", ").append(what).append(", ").append(i).append(") = ")
+                    .append(i < letters.length() ? "'" + letters.charAt(i) + "'" : "NONE").append('\n');
+        }
     }
 
     private static void learnNothing() {

@@ -2,7 +2,7 @@
  * The boundary cases of parses, of the order that decides which one is the best, and of its line: promises 15 parses,
  * 16 cost, 17 first, 21 cheapest.
  */
-public final class ParseBoundsTest {
+public final class ParseBoundsTest extends Bounds {
     public static void main(String[] args) {
         definition();
         otherWords();
@@ -20,15 +20,6 @@ public final class ParseBoundsTest {
         lines();
         lineEnds();
         Check.end();
-    }
-
-    private static void run(String sentence, String script) {
-        Script.run(sentence, script);
-    }
-
-    private static String made(String book, String clue, String answer) {
-        return "book \"" + book + "\"; clue \"" + clue + "\" = " + clue.split(" ").length + "; answer \"" + answer
-                + "\" = " + answer.length() + "; ";
     }
 
     private static void parses(String sentence, String book, String clue, String answer, int due) {
@@ -230,8 +221,12 @@ public final class ParseBoundsTest {
         line("H, the other words without blanks", "d=abbe;s/H;", "d s cab bed", "abbe", "<d=H(cabbed)");
         line("B, the letters of the entry", "d=ab;k/B;w=zab;", "d k w", "ab", "<d=B(zab)");
         line("B, an apostrophe and the word", "d=ab;k/B;", "d k zab", "ab", "<d=B('zab)");
+        line("B, the letters of the entry 0", "w=zab;k/B;d=ab;", "d k w", "ab", "<d=B(zab)");
+        line("B, no word behind it", "d=abc;k/B;", "d k zab c", "abc", "<d=B('zab)+'c");
         line("T, the letters of the entry", "d=ab;k/T;w=abz;", "d k w", "ab", "<d=T(abz)");
         line("T, an apostrophe and the word", "d=ab;k/T;", "d k abz", "ab", "<d=T('abz)");
+        line("T, the letters of the entry 0", "w=abz;k/T;d=ab;", "d k w", "ab", "<d=T(abz)");
+        line("T, no word behind it", "d=abc;k/T;", "d k abz c", "abc", "<d=T('abz)+'c");
         line("I, the other words without blanks", "d=ab;f/I;", "d f art bee", "ab", "<d=I(artbee)");
         line("a unit in a unit in a unit", "d=sadt;r/R;h/C;o=ts;k/B;w=xda;", "d r o h k w", "sadt", "<d=R(C(ts)(B(xda)))");
     }

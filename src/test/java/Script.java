@@ -29,7 +29,7 @@ final class Script {
     private int length;
     private int entries = 14;
 
-    private Script(String sentence, String script) {
+    Script(String sentence, String script) {
         this.sentence = sentence;
         int place = 0;
         while (place < script.length()) {
@@ -41,11 +41,9 @@ final class Script {
         }
     }
 
-    /** Makes the run, for the sentence of the document that it is about. */
-    static void run(String sentence, String script) {
-        Script made = new Script(sentence, script);
-        made.answers();
-        made.refusals();
+    void run() {
+        answers();
+        refusals();
     }
 
     private int read(String script, int place) {

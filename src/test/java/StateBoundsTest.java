@@ -2,7 +2,7 @@
  * The boundary cases of weights, letters, offers and counts: promises 1 (weights, clue and answer), 9 weigh,
  * 12 clueLetter, 13 answerLetter, 22 offer, 23 ifOffer, 24 take, 25 without, 26 count; and the error codes.
  */
-public final class StateBoundsTest {
+public final class StateBoundsTest extends Bounds {
     private static final String CLUE = "abcdefg h ij klm nopq rstuv";
 
     public static void main(String[] args) {
@@ -23,15 +23,6 @@ public final class StateBoundsTest {
         lastCall();
         noCallThrows();
         Check.end();
-    }
-
-    private static void run(String sentence, String script) {
-        Script.run(sentence, script);
-    }
-
-    private static String made(String book, String clue, String answer) {
-        return "book \"" + book + "\"; clue \"" + clue + "\" = " + clue.split(" ").length + "; answer \"" + answer
-                + "\" = " + answer.length() + "; ";
     }
 
     private static void newObject() {
@@ -123,6 +114,8 @@ public final class StateBoundsTest {
         run("offers: different sequences; the entry is the lowest one", made("m=xy;b=xy;a=xy;a=yx;b=yx;a=xyx;", "a m b", "qq")
                 + "offer(-1) = 3; offer(0) = 1; offer(1) = 3; offer(2) = 5; offer(3) = NONE; forget(1) = 5; offer(-1) = 3;"
                 + "offer(0) = 1; offer(1) = 2; offer(2) = 4; clue \"b b\" = 2; offer(-1) = 1; offer(0) = 3");
+        run("offers: the entry is the lowest one: entry 0", made("b=xy;a=xy;", "a b", "qq") + "offer(-1) = 1; offer(0) = 0;"
+                + "offer(1) = NONE; take(0) = 2; take(1) = BAD; forget(0) = 1; offer(-1) = 1; offer(0) = 0; take(0) = NO");
         run("offers: numbered in the order of their entries, not of the words", made("b=zz;a=yy;b=xx;a=aa;", "a b", "qq")
                 + "offer(0) = 0; offer(1) = 1; offer(2) = 2; offer(3) = 3; offer(4) = NONE");
         StringBuilder book = new StringBuilder();
@@ -215,6 +208,8 @@ public final class StateBoundsTest {
                 parses() = 2; without(0) = 0; without(1) = 0; without(2) = 1; without(3) = 1; without(4) = 2; count(5) = 4""");
         run("26: an entry that makes the parse dearer is needed too", made("d=ab;ab=ab;", "d ab x", "ab") + """
                 count(5) = 0; clue "d ab" = 2; weigh(0, 9) = 1; cheapest() = 1; count(5) = 2""");
+        run("26: an entry that all words of the clue need", made("ab=ab;ba=ab;", "ab ab", "ab") + """
+                parses() = 4; without(0) = 0; without(1) = 4; count(5) = 1""");
         run("26: all of 24 entries", made("d=ab;k/B;w=aab;w=bab;w=cab;w=dab;w=eab;w=fab;w=gab;w=hab;w=iab;w=jab;w=kab;w=lab;"
                 + "w=mab;w=nab;w=oab;w=pab;w=qab;w=rab;w=sab;w=tab;w=uab;w=vab;", "d k w", "ab") + """
                 count(0) = 24; parses() = 22; count(5) = 24; without(23) = 21; without(0) = 0""");
@@ -244,13 +239,16 @@ public final class StateBoundsTest {
     }
 
     private static void lastCall() {
-        StringBuilder script = new StringBuilder();
-        for (int i = 0; i < 255; i++) {
-            script.append("weigh(2, 5) = 1; weigh(2, 1) = 5\n");
-        }
-        run("an object is used for at most 512 calls: the last two", script + "cost() = 2; first(13) = ')'");
+        run("an object is used for at most 512 calls: a change before each question",
+                "weigh(2, 5) = 1; cost() = 6; weigh(2, 1) = 5; cost() = 2\n".repeat(127) + """
+                weigh(2, 9) = 1; cost() = 10; parses() = 1; first(13) = ')'""");
+        run("an object is used for at most 512 calls: changes alone",
+                "weigh(2, 5) = 1; weigh(2, 1) = 5\n".repeat(255) + "cost() = 2; first(13) = ')'");
         run("an object is used for at most 512 calls: questions about other books",
                 "count(5) = 3; ifOffer(1, 1) = 2\n".repeat(255) + "without(0) = 0; parses() = 1");
+        run("an object is used for at most 512 calls: all of these",
+                "weigh(2, 5) = 1; count(5) = 3; cost() = 6; ifOffer(1, 1) = 6; weigh(2, 1) = 5; cost() = 2; without(5) = 0\n"
+                .repeat(73) + "forget(5) = 13");
     }
 
     /** What later calls answer is free, but none of them may throw. */

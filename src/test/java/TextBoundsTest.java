@@ -1,5 +1,5 @@
 /** The boundary cases of the text and of its three readings: promises 2 write, 3 wipe, 4 fault, 7 clue, 8 answer. */
-public final class TextBoundsTest {
+public final class TextBoundsTest extends Bounds {
     private static final String SMALL = "abcdefghijklmnopqrstuvwxyz";
     private static final String SIGNS = "RACNHBTIL";
     /** The longest clue, and 50 entries: the longest book. */
@@ -23,10 +23,6 @@ public final class TextBoundsTest {
         answerLetters();
         answerState();
         Check.end();
-    }
-
-    private static void run(String sentence, String script) {
-        Script.run(sentence, script);
     }
 
     private static String written(String text) {

@@ -2,7 +2,7 @@
  * The boundary cases of units and pieces: what each sort asks of its words and letters, and promises 18 pieces,
  * 19 pieceCost and 20 units.
  */
-public final class UnitBoundsTest {
+public final class UnitBoundsTest extends Bounds {
     public static void main(String[] args) {
         spanArguments();
         noPiece();
@@ -26,15 +26,6 @@ public final class UnitBoundsTest {
         pieces();
         greatestNumbers();
         Check.end();
-    }
-
-    private static void run(String sentence, String script) {
-        Script.run(sentence, script);
-    }
-
-    private static String made(String book, String clue, String answer) {
-        return "book \"" + book + "\"; clue \"" + clue + "\" = " + clue.split(" ").length + "; answer \"" + answer
-                + "\" = " + answer.length() + "; ";
     }
 
     /** How many units all words of the clue together are for the whole answer. */
@@ -176,8 +167,10 @@ public final class UnitBoundsTest {
         units("A: the same letters: others", "x/A;", "x ad", "cb", 0);
         units("A: 8 letters", "x/A;", "x abcdefg h", "hgfedcba", 1);
         units("A: 8 letters z", "x/A;", "x zzzzzzz y", "yzzzzzzz", 1);
-        units("A: 9 letters are too many", "x/A;", "x abcdefg hi", "ihgfedcb", 0);
-        units("A: 35 letters are too many", "x/A;", "x abcdefg abcdefg abcdefg abcdefg abcdefg", "gfedcba", 0);
+        units("A: of 9 letters, not the last 8", "x/A;", "x abcdefg hi", "ihgfedcb", 0);
+        units("A: of 9 letters, not the first 8", "x/A;", "x abcdefg hi", "hgfedcba", 0);
+        units("A: of 9 letters, not the first 8, the indicator last", "x/A;", "abcdefg hi x", "hgfedcba", 0);
+        units("A: of 35 letters, not the first 8", "x/A;", "x abcdefg abcdefg abcdefg abcdefg abcdefg", "agfedcba", 0);
         run("A: its cost is the weight", made("x/A;a=a;b=b;", "x a b", "ba") + "pieceCost(0, 3, 0, 2) = 2;"
                 + "weigh(3, 0) = 2; pieceCost(0, 3, 0, 2) = 0; weigh(3, 9) = 0; pieceCost(0, 3, 0, 2) = 9");
     }
@@ -254,7 +247,12 @@ public final class UnitBoundsTest {
         units("H: not the last word", "s/H;", "cab bed s", "abbe", 0);
         units("H: not a word in the middle", "s/H;", "cab s bed", "abbe", 0);
         units("H: at least two other words: one", "s/H;", "s cabbed", "abbe", 0);
+        run("H: at least two other words: one, in the middle or at the end", made("s/H;", "x s cabbed x", "abbe")
+                + span("1, 3, 0, 4", 0, 0, ClueParts.NONE) + "clue \"x x x x s cabbed\" = 6; "
+                + span("4, 6, 0, 4", 0, 0, ClueParts.NONE));
         units("H: at least two other words: two", "s/H;", "s cab bed", "bb", 1);
+        run("H: at least two other words: two, in the middle or at the end", made("s/H;", "x s cab bed x", "abbe")
+                + span("1, 4, 0, 4", 1, 1, 2) + "clue \"x x x s cab bed\" = 6; " + span("3, 6, 0, 4", 1, 1, 2));
         units("H: at least two other words: five", "s/H;", "s ab c d e fg", "bcdef", 1);
         units("H: the words themselves, not what they may stand for", "s/H;p=cab;q=bed;", "s p q", "abbe", 0);
         units("H: no word is an indicator", "s/I;", "s cab bed", "abbe", 0);
@@ -295,6 +293,7 @@ public final class UnitBoundsTest {
         units("B: without the first letter, not with it", "k/B;", "k ab", "ab", 0);
         units("B: without the first letter, not two", "k/B;", "k yzab", "ab", 0);
         units("B: this word itself, and each entry", "k/B;zab=yab;zab=xab;zab=abx;zab=ab;", "k zab", "ab", 3);
+        units("B: the entry 0", "w=zab;k/B;", "k w", "ab", 1);
         units("B: an entry for the longest letters", "k/B;w=abcdefgh;", "k w", "bcdefgh", 1);
         units("B: the longest word", "k/B;", "k abcdefg", "bcdefg", 1);
         run("B: one or more letters: of two letters one is left", made("k/B;w=ba;", "k w", "ab") + span("0, 2, 0, 1", 1, 1, 3));
@@ -318,6 +317,7 @@ public final class UnitBoundsTest {
         units("T: without the last letter, not with it", "k/T;", "k ab", "ab", 0);
         units("T: without the last letter, not two", "k/T;", "k abyz", "ab", 0);
         units("T: this word itself, and each entry", "k/T;abz=aby;abz=abx;abz=xab;abz=ab;", "k abz", "ab", 3);
+        units("T: the entry 0", "w=abz;k/T;", "k w", "ab", 1);
         units("T: an entry for the longest letters", "k/T;w=abcdefgh;", "k w", "abcdefg", 1);
         units("T: the longest word", "k/T;", "k abcdefg", "abcdef", 1);
         run("T: one or more letters: of two letters one is left", made("k/T;w=ab;", "k w", "ab") + span("0, 2, 0, 1", 1, 1, 3));
