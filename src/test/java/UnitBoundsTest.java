@@ -387,8 +387,8 @@ public final class UnitBoundsTest extends Bounds {
      * worked out from the numbers of words and letters alone.
      */
     private static void greatestNumbers() {
-        String book = "aa/R;aa/N;aa/T;aa=aaaa;aa=a;aa=aaaaa;aa/B;aa=caaa;aa=ab;aa=ah;aa=aa;aa=ag;aa=aaaaaa;aa=ha;aa=iaa;"
-                + "aa/C;aa=aaa;aa=aj;aa=aac;aa=ea;aa=aad;aa=ca;aa=ia;aa/I;";
+        String book = "aa/R;aa/C;aa/N;aa/B;aa/T;aa/I;aa=a;aa=aa;aa=aaa;aa=aaaa;aa=aaaaa;aa=aaaaaa;"
+                + "aa=ba;aa=ca;aa=da;aa=ea;aa=fa;aa=ga;aa=ha;aa=ia;aa=ja;aa=ka;aa=la;aa=ma;";
         long[][] pieces = new long[7][9];
         long[][] units = new long[7][9];
         for (int n = 1; n <= 6; n++) {
@@ -402,7 +402,7 @@ public final class UnitBoundsTest extends Bounds {
                 }
             }
         }
-        Check.due("the greatest number of pieces", pieces[6][8], 513965);
+        Check.due("the greatest number of pieces", pieces[6][8], 519014);
         run("numbers up to 1000000 are returned as they are", made(book, "aa aa aa aa aa aa", "aaaaaaaa")
                 + "pieces(0, 6, 0, 8) = " + pieces[6][8] + "; units(0, 6, 0, 8) = " + units[6][8] + "; units(0, 5, 0, 8) = "
                 + units[5][8] + "; pieces(1, 6, 1, 8) = " + pieces[5][7]);
