@@ -370,9 +370,6 @@ public final class ClueParts {
      */
     private static final class Letters {
         static final int BITS = 5, MASK = 31, SMALL = 96, ROOM = 12;
-        /** For no letter 1, for a 2, and so on; the eighth power of the last one is still a long. */
-        private static final int[] PRIMES = {1, 2, 3, 5, 7, 11, 13, 17, 19, 23, 29, 31, 37, 41, 43, 47, 53, 59, 61, 67,
-            71, 73, 79, 83, 89, 97, 101};
 
         static long with(long letters, int i, int character) {
             return letters | (long) (character & MASK) << BITS * i;
@@ -399,16 +396,25 @@ public final class ClueParts {
             return size == 0 ? 0 : letters & (1L << BITS * (size - 1)) - 1;
         }
 
-        /** A number that is the same for the same letters in any order, and different for others: up to 8 letters. */
-        static long bag(long letters) {
-            long product = 1;
-            for (int i = 0; i < MAX_LETTERS; i++) {
+        /** Whether both have the same letters, each as often, in any order; empty places count, and so do lengths. */
+        static boolean areSame(long letters, long others) {
+            for (int i = 0; i < ROOM; i++) {
                 int letter = (int) (letters >>> BITS * i & MASK);
-                if (letter < PRIMES.length) {
-                    product *= PRIMES[letter];
+                if (times(letter, letters) != times(letter, others)) {
+                    return false;
                 }
             }
-            return product;
+            return true;
+        }
+
+        private static int times(int letter, long letters) {
+            int found = 0;
+            for (int i = 0; i < ROOM; i++) {
+                if ((letters >>> BITS * i & MASK) == letter) {
+                    found++;
+                }
+            }
+            return found;
         }
     }
 
@@ -635,14 +641,14 @@ public final class ClueParts {
         }
 
         boolean isAnagram(int i, int j, long letters) {
-            if (start[j] - start[i] > MAX_LETTERS) {
+            if (start[j] - start[i] != Letters.size(letters)) {
                 return false;
             }
             long others = 0;
             for (int at = start[i]; at < start[j]; at++) {
                 others = Letters.with(others, at - start[i], joined[at]);
             }
-            return others != letters && Letters.bag(others) == Letters.bag(letters);
+            return others != letters && Letters.areSame(letters, others);
         }
 
         long initials(int i, int j) {
