@@ -387,10 +387,35 @@ public final class UnitBoundsTest extends Bounds {
      * worked out from the numbers of words and letters alone.
      */
     private static void greatestNumbers() {
-        String book = "aa/R;aa/C;aa/N;aa/B;aa/T;aa/I;aa=a;aa=aa;aa=aaa;aa=aaaa;aa=aaaaa;aa=aaaaaa;"
-                + "aa=ba;aa=ca;aa=da;aa=ea;aa=fa;aa=ga;aa=ha;aa=ia;aa=ja;aa=ka;aa=la;aa=ma;";
-        long[][] pieces = new long[7][9];
+        String signs = "aa/R;aa/C;aa/N;aa/B;aa/T;aa/I;";
+        String letters = "aa=a;aa=aa;aa=aaa;aa=aaaa;aa=aaaaa;aa=aaaaaa;";
+        String beheaded = "aa=ba;aa=ca;aa=da;aa=ea;aa=fa;aa=ga;aa=ha;aa=ia;";
+        greatestPieces(signs + letters + beheaded + "aa=ja;aa=ka;aa=la;aa=ma;");
+        greatestParses(signs + "aa/L;" + letters + "aa=aaaaaaa;aa=aaaaaaaa;" + beheaded + "aa=ab;");
+    }
+
+    private static void greatestPieces(String book) {
         long[][] units = new long[7][9];
+        long[][] pieces = new long[7][9];
+        workOut(book, units, pieces);
+        Check.due("the greatest number of pieces", pieces[6][8], 519014);
+        run("numbers up to 1000000 are returned as they are", made(book, "aa aa aa aa aa aa", "aaaaaaaa")
+                + "pieces(0, 6, 0, 8) = " + pieces[6][8] + "; units(0, 6, 0, 8) = " + units[6][8] + "; units(0, 5, 0, 8) = "
+                + units[5][8] + "; pieces(1, 6, 1, 8) = " + pieces[5][7]);
+    }
+
+    /** The definition may be the first or the last word, and the link is one more of the words aa. */
+    private static void greatestParses(String book) {
+        long[][] pieces = new long[7][9];
+        workOut(book, new long[7][9], pieces);
+        long parses = 2 * pieces[5][8] + 2 * pieces[4][8];
+        Check.due("the greatest number of parses", parses, 83880);
+        run("numbers of parses up to 1000000 are returned as they are", made(book, "aa aa aa aa aa aa", "aaaaaaaa")
+                + "parses() = " + parses + "; without(6) = " + 2 * pieces[5][8] + "; count(5) = 24");
+    }
+
+    /** How many units and pieces n words aa are for m letters a, for all n and m. */
+    private static void workOut(String book, long[][] units, long[][] pieces) {
         for (int n = 1; n <= 6; n++) {
             for (int m = 1; m <= 8; m++) {
                 units[n][m] = n == 1 ? singleWords(book, m) : severalWords(book, pieces, n, m);
@@ -402,10 +427,6 @@ public final class UnitBoundsTest extends Bounds {
                 }
             }
         }
-        Check.due("the greatest number of pieces", pieces[6][8], 519014);
-        run("numbers up to 1000000 are returned as they are", made(book, "aa aa aa aa aa aa", "aaaaaaaa")
-                + "pieces(0, 6, 0, 8) = " + pieces[6][8] + "; units(0, 6, 0, 8) = " + units[6][8] + "; units(0, 5, 0, 8) = "
-                + units[5][8] + "; pieces(1, 6, 1, 8) = " + pieces[5][7]);
     }
 
     /** In how many ways the word aa is so many letters a: by an entry, or itself. */
